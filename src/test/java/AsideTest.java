@@ -71,6 +71,9 @@ public final class AsideTest {
         LimeDeaths y = Check.green("t50000000g09f00d00");
         C.due("the first best order", y.round(7, 0), 5);
         C.row("the first best order", y, 0, 2, 1, 0);
+        LimeDeaths alike = Check.green("t55000000d00d10");
+        C.due("the first of orders alike", alike.round(3, 0), 8);
+        C.row("the first of orders alike", alike, 0, 0, 1);
         LimeDeaths k = Check.green("t00000000k09d10");
         C.due("a king alone", k.round(1, 3), LimeDeaths.NONE);
         C.due("no row then", k.count(9), 0);
@@ -131,6 +134,11 @@ public final class AsideTest {
         LimeDeaths y = Check.green("t00000000g09");
         duel(y, 0, -1);
         duel(y, 1, 0 + 4 + 3 - 4);
+        // told by the first one the even bough comes to 4, else the other one has the uneven bough bear
+        LimeDeaths z = Check.green("t00000000g09g19");
+        duel(z, 1, 4 + 3 - 4 - 3);
+        LimeDeaths o = Check.green("t00000000g19");
+        duel(o, 1, 4 - 4 - 3);
         C.refuses("duel(3)", x, () -> x.duel(3), LimeDeaths.BAD);
         C.refuses("duel(-1)", x, () -> x.duel(-1), LimeDeaths.BAD);
         LimeDeaths none = new LimeDeaths();

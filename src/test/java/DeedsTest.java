@@ -11,6 +11,7 @@ public final class DeedsTest {
         prunings();
         undoings();
         keepings();
+        fortieth();
         lots();
         C.end();
     }
@@ -91,6 +92,20 @@ public final class DeedsTest {
         C.refuses("prune without deaths", none, () -> none.prune(0), LimeDeaths.STATE);
     }
 
+    private static LimeDeaths ahead() {
+        LimeDeaths x = full();
+        x.undo(39);
+        return x;
+    }
+
+    private static void fortieth() {
+        C.due("tell as the last deed", ahead().tell(1), 3);
+        C.due("water as the last deed", ahead().water(0, 2), 2);
+        C.due("prune as the last deed", ahead().prune(7), 9);
+        C.due("morning as the last deed", ahead().morning(), 45);
+        C.due("a lot as the last deed", ahead().lots(1, 1), 45);
+    }
+
     private static void undoings() {
         LimeDeaths x = Check.green(SIX);
         long[] digests = new long[6];
@@ -142,8 +157,12 @@ public final class DeedsTest {
         C.refuses("on(-1)", x, () -> x.on(-1), LimeDeaths.BAD);
         C.refuses("keep(3)", x, () -> x.keep(3), LimeDeaths.BAD);
         C.refuses("keep(-1)", x, () -> x.keep(-1), LimeDeaths.BAD);
+        x.keep(1);
         x.green(0);
-        C.finds("on behind green", x, () -> x.on(0), NOTHING);
+        for (int k = 0; k < 3; k++) {
+            int place = k;
+            C.finds("on behind green", x, () -> x.on(place), NOTHING);
+        }
         LimeDeaths none = new LimeDeaths();
         C.refuses("keep without deaths", none, () -> none.keep(0), LimeDeaths.STATE);
         C.finds("on without deaths", none, () -> none.on(0), NOTHING);
@@ -156,6 +175,18 @@ public final class DeedsTest {
         C.due("lots deeds", x.count(3), 1);
         // 182605794 by 8 is 22825724, modulo 8 is 4: death 182605794 modulo 6 is 0
         C.due("lots(2, 1) tells", Check.green(SIX).lots(2, 1), 35);
+        // lots of 3, with what each by 8 modulo 8 is: 144813 (5: death 3), 547817382 (4: death 0), 1726701011 (2),
+        // 1449194617 (7: bough 1), 1941039829 (2), 1222067049 (5: death 3, told already), 1170222836 (6: bough 3),
+        // 416665868 (1)
+        LimeDeaths w = Check.green(SIX);
+        int[] sums = {32, 31, 34, 29, 34, 34, 36, 39};
+        for (int n = 1; n <= sums.length; n++) {
+            w.undo(0);
+            C.due("lots(" + n + ", 3)", w.lots(n, 3), sums[n - 1]);
+            C.due("lots(" + n + ", 3) deeds", w.count(3), n);
+        }
+        C.due("lots told", w.count(4), 9);
+        C.due("lots mornings", w.count(2), 3);
         // a lone king is told once; all other such lots are deeds without effect
         LimeDeaths k = Check.green("t00000000k00");
         C.due("lots(20, 7) sums", k.lots(20, 7) >= 0 ? 1 : 0, 1);

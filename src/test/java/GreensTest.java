@@ -53,6 +53,15 @@ public final class GreensTest {
         fault("t01234567d00d00d00d00d00d00 d00", 28);
         fault("t01234567d00d00d00d00d00d00x", 27);
         fault("t01234567d00d00d00d00d00d", 25);
+        // at the end of the longest texts
+        String blanks = " ".repeat(60);
+        fault(blanks, 60);
+        fault(blanks.substring(1) + "t", 60);
+        fault(blanks.substring(5) + "t9876", 60);
+        fault(blanks.substring(9) + "t01234567", 60);
+        fault(blanks.substring(10) + "t01234567d", 60);
+        fault(blanks.substring(11) + "t01234567d7", 60);
+        fault(blanks.substring(12) + "t01234567d79", LimeDeaths.NONE);
         LimeDeaths x = new LimeDeaths();
         C.finds("fault of missing", x, () -> x.fault(0), NOTHING);
         C.refuses("fault(4)", x, () -> x.fault(4), LimeDeaths.BAD);

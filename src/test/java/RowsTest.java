@@ -112,6 +112,10 @@ public final class RowsTest {
         Check.lay(x, 0, Integer.MAX_VALUE, Integer.MAX_VALUE, Integer.MAX_VALUE);
         x.mean(0);
         C.due("mean of large ones", x.asked(), Integer.MAX_VALUE);
+        x.row(0, 40);
+        x.lay(0, 39, 80);
+        x.mean(0);
+        C.due("mean of forty", x.asked(), 2);
         x.row(1, 0);
         C.finds("mean of none", x, () -> x.mean(1), NOUGHT);
         C.finds("mean of missing", x, () -> x.mean(2), NOTHING);

@@ -241,6 +241,9 @@ public final class AsideTest {
         C.due("more now", x.plan(5, 1, 3), 0);
         C.due("none wanted", x.plan(3, 0, 3), 0);
         C.due("nine now", x.plan(5, 9, 3), 0);
+        for (int b = 0; b < 8; b++) {
+            C.due("of bough " + b, Check.green("t00000000g" + b + "9").plan(b, 3, 0), 1);
+        }
         C.due("six for a king's", x.plan(3, 6, 3), 6);
         C.row("six for a king's", x, 3, 0, 1, 2, 3, 4, 5);
         LimeDeaths y = Check.green("t00000000d00g03g06s03");
@@ -330,6 +333,10 @@ public final class AsideTest {
         C.says("the first one wanting that to be much, the other one little, told by asked(): 1.");
         lead("the first one makes it much", "t40404040s09", 1, 8 + 5 * 3 + 1 - 4);
         lead("the other one makes it little", "t04040404s19", 1, 4 - (9 + 15));
+        // on one bough it matters who tells first: 5 and 3, then half of it, or half of 5, then 3 more
+        lead("first the good one, then the false one", "t50000000g09f00", 1, 5 + 3 - 4);
+        lead("with two turns the first one tells of both", "t50000000g09f00", 2, 6 + 3 - 4);
+        lead("first the false one, then the good one", "t05000000g19f10", 1, 4 - 6 - 3);
         C.says("BAD;");
         LimeDeaths x = Check.green(SIX);
         LimeDeaths none = new LimeDeaths();

@@ -146,6 +146,7 @@ public final class DeedsTest {
         C.due("prune(7)", x.prune(7), 6);
         C.due("prune(0)", x.prune(0), 5);
         C.boughs("pruned", x, 0, 7, 3, 0, 0, 0, 4, 0);
+        C.due("prune on a green of one death", Check.green("t90000000d70").prune(0), 9);
         C.due("deeds", x.count(3), 4);
         C.due("no morning by it", x.count(2), 0);
         C.says("BAD;");

@@ -72,6 +72,7 @@ public final class GreensTest {
         C.due("the same green anew", same.green(0), 6);
         C.boughs("the same green anew", same, 5, 7, 3, 0, 1, 9, 4, 6);
         C.due("nothing told", same.count(4), 0);
+        greensInTurn();
         C.says("kept GREENS go):");
         LimeDeaths y = used();
         C.due("three kept", y.count(11), 3);
@@ -96,6 +97,25 @@ public final class GreensTest {
             C.bad("green(" + t + ")", x, () -> x.green(t));
         }
         greenRefusals();
+    }
+
+    /** Nothing of an earlier green, nor of a text that was looked at, stays in a later one. */
+    private static void greensInTurn() {
+        LimeDeaths x = new LimeDeaths();
+        Check.write(x, 0, "t99999999d00d10d20d30d40d50");
+        Check.write(x, 1, "t00000000k01");
+        Check.write(x, 2, "t11111111k01k11k21k31k41x");
+        for (int k = 0; k < 4; k++) {
+            C.due("six deaths", x.green(0), 6);
+            C.due("no fault", x.fault(0), LimeDeaths.NONE);
+            C.due("one king", x.green(1), 1);
+            C.due("it can be told", x.count(5), 1);
+            C.due("it is the only king", x.count(8), 1);
+            C.boughs("its boughs", x, 0, 0, 0, 0, 0, 0, 0, 0);
+            C.due("told", x.tell(0), 2);
+            C.refuses("a fault", x, () -> x.green(2), LimeDeaths.STATE);
+            C.due("one king still", x.count(0), 1);
+        }
     }
 
     private static void greenRefusals() {

@@ -36,6 +36,7 @@ public final class LanguageTest {
 
     public static void main(String[] args) throws Exception {
         face();
+        documentFace();
         Class<?>[] all = classes();
         names(all);
         sizes(all);
@@ -96,6 +97,33 @@ public final class LanguageTest {
         must(made.length == 1 && made[0].getParameterCount() == 0 && Modifier.isPublic(made[0].getModifiers()),
             "the constructor is not the face's");
         must(LimeDeaths.class.getInterfaces().length == 0, "it implements something");
+    }
+
+    /** The face above is the document's, and the constants have the document's values. */
+    private static void documentFace() throws Exception {
+        Path document = Path.of("../shared/DOC.md");
+        if (!Files.isReadable(document)) {
+            System.out.println("  " + document + " can't be read: its face is not looked up");
+            return;
+        }
+        Matcher block = Pattern.compile("(?s)```java\n(.*?)```").matcher(Files.readString(document));
+        must(block.find(), "the document has no face");
+        String text = block.group(1);
+        Set<String> said = new TreeSet<>();
+        Matcher methods = Pattern.compile("public (\\w+ \\w+)\\(([^)]*)\\);").matcher(text);
+        while (methods.find()) {
+            said.add(methods.group(1) + "(" + methods.group(2).replaceAll("(\\w+) \\w+(, )?", "$1$2")
+                .replace(", ", ",") + ")");
+        }
+        must(said.equals(new TreeSet<>(Arrays.asList(FACE))), "the document's face is " + said);
+        Matcher constants = Pattern.compile("\\b([A-Z]+) = (-?\\d+)").matcher(text);
+        Set<String> named = new HashSet<>();
+        while (constants.find()) {
+            named.add(constants.group(1));
+            int value = LimeDeaths.class.getField(constants.group(1)).getInt(null);
+            must(value == Integer.parseInt(constants.group(2)), constants.group() + " is " + value);
+        }
+        must(named.equals(Set.of(CONSTANTS)), "the document's constants are " + named);
     }
 
     private static void names(Class<?>[] all) {
